@@ -412,12 +412,10 @@ public final class FairRents {
             this.floor = floor;
         }
 
-        @Override
         int worth() {
             return super.worth() - 2 * floor;
         }
 
-        @Override
         int marks() {
             return super.marks() + 10;
         }
@@ -428,14 +426,12 @@ public final class FairRents {
             super(rooms, floor);
         }
 
-        @Override
         int worth() {
             int up = super.worth();
             // A FLAT high up has POINTS below 0, and its quarter is rounded down as well.
             return up - Math.floorDiv(up, 4);
         }
 
-        @Override
         int marks() {
             return super.marks() + 100;
         }

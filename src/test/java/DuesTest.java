@@ -214,6 +214,14 @@ public final class DuesTest {
         }
         x.days(27);
         C.is("19: up to DAY 300", x.owed(0, 300), 29800);
+        x.pay(0, 800);
+        C.is("19: PAID on DAY 300", x.owed(0, 300), 29000);
+        FairRents y = new FairRents();
+        y.home(0, 0, 5, 0);
+        y.let(0, 100);
+        C.is("19: DAY 0", y.owed(0, 0), 100);
+        y.pay(0, 30);
+        C.is("19: PAID on DAY 0", y.owed(0, 0), 70);
     }
 
     private static void promise20Count() {

@@ -55,6 +55,8 @@ public final class HomesLawsLikesTest {
         C.is("2: the ninth", x.home(0, 0, 1, 0), FairRents.FULL);
         C.is("2: BAD before FULL", x.home(3, 0, 1, 0), FairRents.BAD);
         C.is("2: still eight", x.count(0), 8);
+        C.is("2: the eighth is there", x.points(7), 90 - 2 * 9);
+        C.is("2: a ninth is not", x.points(8), FairRents.BAD);
     }
 
     private static void promise3Faults() {
@@ -219,6 +221,11 @@ public final class HomesLawsLikesTest {
         }
         C.is("8: the other", x.strike(1), 1);
         C.is("8: none left", x.head(0, 10, 0), 0);
+        for (int i = 2; i < 12; i++) {
+            x.like(0, 50, 100);
+        }
+        C.is("8: the last of twelve", x.strike(11), 1);
+        C.is("8: nine are left", x.head(0, 10, 4), 9);
     }
 
     private static void promise9Days() {

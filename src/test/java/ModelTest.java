@@ -12,6 +12,14 @@ public final class ModelTest {
     private static final Check C = new Check();
     private static final int RUNS = 3000;
     private static final int CALLS = 512;
+    /** Answers after the 512th call are free, but none may throw: a few runs go on and see. */
+    private static final int LONG_CALLS = 3000;
+    private static final boolean[] TAKES_HOME = new boolean[23];
+    static {
+        for (int call : new int[] {1, 2, 9, 10, 11, 12, 13, 15, 16, 17, 18, 21, 22}) {
+            TAKES_HOME[call] = true;
+        }
+    }
     private static final int[] ODD = {Integer.MIN_VALUE, Integer.MIN_VALUE + 1, -1000000, -9, -1, 0, 1,
         8, 10, 12, 20, 31, 61, 91, 201, 301, 401, 501, 5001, 100001, Integer.MAX_VALUE - 1, Integer.MAX_VALUE};
 
@@ -28,9 +36,19 @@ public final class ModelTest {
         int[] a = new int[8];
         int slow = 1 + r.nextInt(30);
         int oneIn = 5 + r.nextInt(200);
-        for (int i = 0; i < CALLS; i++) {
+        int homes = up(r, 1, 9);
+        int areas = up(r, 1, 3);
+        int calls = seed % 500 == 0 ? LONG_CALLS : CALLS;
+        for (int i = 0; i < calls; i++) {
             int call = r.nextInt(23);
             fill(call, a, r, m.today, slow);
+            if (call == 0) {
+                a[1] = r.nextInt(areas);
+            } else if (call == 5) {
+                a[0] = r.nextInt(areas);
+            } else if (TAKES_HOME[call] && a[0] < 9) {
+                a[0] = r.nextInt(homes);
+            }
             if (r.nextInt(oneIn) == 0) {
                 a[r.nextInt(a.length)] = r.nextInt(4) == 0 ? r.nextInt() : ODD[r.nextInt(ODD.length)];
             }
@@ -55,7 +73,7 @@ public final class ModelTest {
         }
         a[0] = r.nextInt(4);
         switch (call) {
-            case 0: a[0] = r.nextInt(3); a[1] = r.nextInt(2); a[2] = up(r, 1, 9); a[3] = r.nextInt(10); break;
+            case 0: a[0] = r.nextInt(3); a[2] = up(r, 1, 9); a[3] = r.nextInt(10); break;
             case 1: a[1] = r.nextInt(10); break;
             case 3:
                 a[0] = Math.min(31, today / 10 + r.nextInt(4));
@@ -64,7 +82,7 @@ public final class ModelTest {
                 a[7] = r.nextBoolean() ? up(r, 0, 3) : up(r, 0, 60);
                 break;
             case 4: a[0] = r.nextInt(402); break;
-            case 5: a[0] = r.nextInt(2); a[1] = r.nextInt(202); a[2] = r.nextBoolean() ? up(r, 1, 400) : up(r, 0, 5000); break;
+            case 5: a[1] = r.nextInt(202); a[2] = r.nextBoolean() ? up(r, 1, 400) : up(r, 0, 5000); break;
             case 6: a[0] = r.nextInt(13); break;
             case 7: case 8: a[0] = up(r, 1, slow); break;
             case 9: a[1] = r.nextInt(301); a[2] = r.nextInt(6); break;
@@ -73,6 +91,7 @@ public final class ModelTest {
             case 16: case 21: a[1] = Math.max(0, today - r.nextInt(25)); break;
             case 17: a[1] = r.nextBoolean() ? up(r, 0, 300) : up(r, 0, 100000); break;
             case 18: case 22: a[1] = r.nextInt(today + 2); break;
+            case 19: a[0] = r.nextInt(7); break;
             default: break;
         }
     }

@@ -33,6 +33,13 @@ public final class RegisterTest {
         }
         x.like(1, 50, 1);
         C.is("10: another AREA", x.head(0, 0, 4), 6);
+        FairRents z = new FairRents();
+        z.home(0, 0, 5, 0);
+        for (int i = 12; i > 0; i--) {
+            z.like(0, 50, 10 * i);
+        }
+        C.is("10: all twelve count", z.head(0, 0, 4), 12);
+        C.is("10: the lower of both", z.head(0, 0, 0), 60);
         C.is("10: a day to come", x.head(0, 300, 0), 300);
         FairRents y = new FairRents();
         y.home(2, 2, 3, 4);
@@ -109,6 +116,8 @@ public final class RegisterTest {
         C.is("11: from TODAY on", x.due(0, 2), FairRents.STATE);
         C.is("11: DUE", x.due(0, 3), 200);
         C.is("11: nothing PAID", x.pay(0, 0), 0);
+        x.pay(0, 30);
+        C.is("11: another on a DAY with a sum", x.let(0, 200), 1);
         C.is("11: OWED from its first DAY", x.owed(0, 3), 200);
     }
 
@@ -156,6 +165,8 @@ public final class RegisterTest {
         x.appeal(0);
         C.is("12: an unwound one keeps its place", x.ask(0), FairRents.FULL);
         C.is("12: twenty", x.count(2), 20);
+        C.is("12: the last is unwound", x.entry(19, 6), 0);
+        C.is("12: the one before is not", x.latest(0), 18);
     }
 
     private static void promise13Open() {
