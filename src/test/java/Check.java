@@ -21,4 +21,22 @@ final class Check {
             System.exit(1);
         }
     }
+
+    /**
+     * Numbers that are not within least .. most: the first ones on both sides, the farthest ones,
+     * and such as would be within if they were cut to fewer bits or wrapped around.
+     */
+    static int[] outside(int least, int most) {
+        int[] tried = {least - 1, least - 2, most + 1, most + 2, -least - 1, -most - 1,
+            least + 256, most - 256, least + 65536, most - 65536, least + (1 << 30),
+            Integer.MIN_VALUE, Integer.MIN_VALUE + least, Integer.MIN_VALUE + most,
+            Integer.MAX_VALUE, Integer.MAX_VALUE - most, 429496730, 858993460};
+        int kept = 0;
+        for (int number : tried) {
+            if (number < least || number > most) {
+                tried[kept++] = number;
+            }
+        }
+        return java.util.Arrays.copyOf(tried, kept);
+    }
 }
