@@ -6,6 +6,7 @@ public final class PayEdgesTest {
 
     public static void main(String[] args) {
         p18Sums();
+        p18OnTheFirstAndTheLastDay();
         p18InAllOfThisLetting();
         p18NotLet();
         p18Above1000000();
@@ -47,6 +48,26 @@ public final class PayEdgesTest {
             C.is("18: sum " + sum, x.pay(0, sum), BAD);
         }
         C.is("18: in all", x.pay(0, 0), 5);
+    }
+
+    /** "So much is PAID TODAY": on DAY 0, 1, 299 and 300. */
+    private static void p18OnTheFirstAndTheLastDay() {
+        FairRents x = let(100);
+        C.is("18: DAY 0", x.pay(0, 1), 1);
+        x.days(1);
+        C.is("18: DAY 1", x.pay(0, 2), 3);
+        x.days(28);
+        for (int i = 0; i < 9; i++) {
+            x.days(30);
+        }
+        C.is("18: DAY 299", x.pay(0, 4), 7);
+        x.days(1);
+        C.is("18: DAY 300", x.pay(0, 8), 15);
+        C.is("18: OWED on DAY 0", x.owed(0, 0), 100 - 1);
+        C.is("18: OWED on DAY 1", x.owed(0, 1), 200 - 3);
+        C.is("18: OWED on DAY 298", x.owed(0, 298), 29900 - 3);
+        C.is("18: OWED on DAY 299", x.owed(0, 299), 30000 - 7);
+        C.is("18: OWED on DAY 300", x.owed(0, 300), 30100 - 15);
     }
 
     /** "what was PAID in all of this letting" */

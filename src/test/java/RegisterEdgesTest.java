@@ -1,4 +1,4 @@
-/** The edges of promises 11 to 16: lettings, asks, their days, appeals and entries. */
+/** The edges of promises 11 to 13: lettings, asks, and from which DAY on an ask is heard. */
 public final class RegisterEdgesTest {
     private static final Check C = new Check();
     private static final int BAD = FairRents.BAD, STATE = FairRents.STATE, FULL = FairRents.FULL;

@@ -196,21 +196,30 @@ final class Story {
         return new Story(check, "a busy object", Story::tellBusy);
     }
 
-    /** 8 HOMES, 12 LIKES, 20 entries, 1000000 PAID, a LAW for each YEAR, on DAY 295. */
+    /**
+     * 8 HOMES, 12 LIKES, 20 entries, 1000000 PAID, a LAW for each YEAR, on DAY 295; some LIKES are
+     * struck, some entries unwound, and HOMES have FAULTS, so that each of these could change.
+     */
     static void tellFull(FairRents x) {
         for (int year = 1; year <= 30; year++) {
             x.law(year, year, 2 * year, 3 * year, 1 + year % 9, year % 21, 10 + year, year % 3);
         }
         for (int h = 0; h < 8; h++) {
             x.home(h % 3, h % 3, 9 - h, h);
+            x.faults(h, h + 2);
             x.let(h, 100 + h);
         }
         for (int l = 0; l < 12; l++) {
             x.like(l % 3, 10 * l, 200 + l);
         }
+        x.strike(1);
+        x.strike(11);
         for (int i = 0; i < 20; i++) {
             x.days(i < 15 ? 13 : 20);
             x.ask(i % 7);
+            if (i % 6 == 3) {
+                x.appeal(i % 7);
+            }
         }
         for (int i = 0; i < 10; i++) {
             x.pay(0, 100000);
