@@ -4,9 +4,10 @@ import java.util.function.Consumer;
 import java.util.function.ToLongFunction;
 
 /**
- * A run of calls, told again on new objects as often as needed, so that what can be learnt at its
+ * A run of calls, told again on new objects as often as needed, so that what is answered after its
  * end is compared with and without a refused call there: nothing may have changed. The questions
  * are put in groups, each to an object of its own, as an object is promised for 512 calls alone.
+ * LAWS and HEADS are asked for on the first and the last DAY of each YEAR, to keep them few.
  */
 final class Story {
     private static final int GROUP = 300;
